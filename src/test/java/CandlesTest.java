@@ -269,6 +269,7 @@ public final class CandlesTest {
         x.dip(0, 0);
         x.dip(0, 3);
         x.dip(0, 0);
+        CHECK.due("13: not enough for one", x.burn(0, 1), 18);
         CHECK.due("13: not enough for one", x.burn(0, 2), 18);
         CHECK.due("13: enough for one", x.burn(0, 5), 17);
         CHECK.due("13: the last layer, and not enough for wax", x.burn(0, 19), 12);

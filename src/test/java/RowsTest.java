@@ -141,6 +141,8 @@ public final class RowsTest {
     private static void best() {
         FortyDips x = Check.with(0);
         CHECK.tells("24: wax", x, 3, y -> y.best(0));
+        x.vat(3, 2, 6);
+        CHECK.tells("24: by one dip alone", x, 3, y -> y.best(0));
         x.vat(3, 2, 0);
         CHECK.tells("24: of several the least", x, 0, y -> y.best(0));
         x.vat(2, 1, 29);
@@ -170,6 +172,17 @@ public final class RowsTest {
         CHECK.finds("25: kind(0, 3, -1)", x, Check.BEYOND, y -> y.kind(0, 3, -1));
         CHECK.finds("25: kind(0, 4, 1)", x, Check.BEYOND, y -> y.kind(0, 4, 1));
         CHECK.finds("25: kind(1, 3, 1)", x, Check.BEYOND, y -> y.kind(1, 3, 1));
+        FortyDips hot = Check.with(0);
+        hot.vat(0, 2, 20);
+        for (int i = 0; i < 4; i++) {
+            hot.dip(0, 0);
+        }
+        hot.vat(1, 1, 99);
+        // A rush loses 2 by each dip, a paschal 5 up to all, and burns 30 then.
+        CHECK.tells("25: before it is too thin", hot, 4, y -> y.kind(0, 1, 1));
+        CHECK.tells("25: a rush that loses less", hot, 3, y -> y.kind(0, 1, 4));
+        CHECK.tells("25: of several the least", hot, 3, y -> y.kind(0, 1, 5));
+        CHECK.tells("25: a paschal of nothing", hot, 4, y -> y.kind(0, 1, 6));
     }
 
     private static void fires() {

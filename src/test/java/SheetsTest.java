@@ -202,9 +202,22 @@ public final class SheetsTest {
         x.vat(0, 1, 28);
         put(x, 0, 6, 6, 9, 6);
         CHECK.tells("36: the least row", x, 64 + 16 + 1, y -> y.read(0, 0));
+        x.vat(0, 1, 50);
+        x.vat(0, 2, 7);
+        put(x, 0, 6, 6, 1);
+        CHECK.tells("36: a vat that was tried holds what it held", x, 4, y -> y.read(0, 0));
+        x.vat(0, 1, 32);
+        x.vat(0, 2, 2000);
+        x.vat(1, 0, 1);
+        put(x, 0, 6, -6, 6);
+        CHECK.tells("36: a vat that was tried is as warm", x, 4, y -> y.read(0, 0));
+        x.candle(0);
+        x.dip(0, 2);
+        x.most(0, 1);
+        CHECK.tells("36: of a new candle", x, 4, y -> y.read(0, 0));
         x.sheet(0, 8, 1);
         x.write(0, 0, 256 - 6);
-        CHECK.tells("36: of 8 bits", x, 3, y -> y.read(0, 0));
+        CHECK.tells("36: of 8 bits", x, 1, y -> y.read(0, 0));
     }
 
     private static void readFindings() {

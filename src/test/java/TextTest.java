@@ -127,6 +127,18 @@ public final class TextTest {
         CHECK.due("30: no capitals within", Check.told(x, "canDle"), -1);
         CHECK.due("30: byte 0", Check.told(x, "candle\0"), -1 - 6);
         CHECK.due("30: byte 255", Check.told(x, "candle;" + (char) 255), -1 - 7);
+        CHECK.due("30: letters up to z", Check.told(x, "candlez"), -1);
+        CHECK.due("30: letters from a", Check.told(x, "candlea"), -1);
+        CHECK.due("30: no sign below a", Check.told(x, "candle`"), -1 - 6);
+        CHECK.due("30: no sign above z", Check.told(x, "candle{"), -1 - 6);
+        CHECK.due("30: no sign below 0", Check.told(x, "wood 1/"), -1 - 6);
+        CHECK.due("30: no sign above 9", Check.told(x, "wood 1:"), -1 - 6);
+        CHECK.due("30: nothing of an earlier text", Check.told(x, "wood 123456"), -1 - 5);
+        CHECK.due("30: nothing of an earlier text", Check.told(x, "wood 12"), 1);
+        CHECK.due("30: wood", x.now(1), 12);
+        CHECK.due("30: 120 bytes", Check.told(x, "wood 3" + " ".repeat(104) + "; draught "), -1 - 120);
+        CHECK.due("30: 120 bytes", Check.told(x, "wood 3;" + " ".repeat(104) + "draught 7"), 2);
+        CHECK.due("30: draught", x.now(2), 7);
         CHECK.due("30: a part of a word", Check.told(x, "candl"), -1);
         CHECK.due("30: more than a word", Check.told(x, "candles"), -1);
     }
