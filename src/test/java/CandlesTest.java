@@ -284,6 +284,13 @@ public final class CandlesTest {
         CHECK.finds("13: burn(0, 0)", x, Check.BEYOND, y -> y.burn(0, 0));
         CHECK.finds("13: burn(0, 10000)", x, Check.BEYOND, y -> y.burn(0, 10000));
         CHECK.finds("13: burn(1, 1)", x, Check.BEYOND, y -> y.burn(1, 1));
+        x.dip(0, 0);
+        x.dip(0, 0);
+        x.dip(0, 0);
+        x.melt(0, 0);
+        x.dip(0, 0);
+        CHECK.due("13: layers that were melted do not burn", x.burn(0, 9), 3);
+        CHECK.due("13: what is left is tallow", x.layer(0, 0), 3);
         FortyDips star = Check.with(STAR);
         star.dip(0, 0);
         CHECK.due("13: whatever the kind", star.burn(0, 6), 16);
