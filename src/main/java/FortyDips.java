@@ -317,7 +317,7 @@ public final class FortyDips {
     }
 
     public int ways(int candle, int v, int n) {
-        if (!shop.has(candle) || !within(n, 0, MOST_DIPS)) {
+        if (!shop.has(candle) || !within(v, 0, MOST_MINUTES) || !within(n, 0, MOST_DIPS)) {
             return finding(BEYOND);
         }
         rows.walk(shop.vats, shop.candles[candle], n, v);

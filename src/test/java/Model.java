@@ -466,7 +466,7 @@ final class Model {
                 need(a[2] < first.length, NONE);
                 return first[a[2]];
             case "ways":
-                need(in(a[2], 0, 6), BEYOND);
+                need(in(a[1], 0, 9999) && in(a[2], 0, 6), BEYOND);
                 int ways = 0;
                 for (int number = 0; number < 1 << (2 * a[2]); number++) {
                     ways += shop.behind(a[0], row(number, a[2])) == a[1] ? 1 : 0;

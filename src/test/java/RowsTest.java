@@ -97,13 +97,42 @@ public final class RowsTest {
         CHECK.tells("22: ways(0, 108, 6)", x, 729, y -> y.ways(0, 108, 6));
         CHECK.tells("22: ways(0, 120, 6)", x, 6 * 243, y -> y.ways(0, 120, 6));
         CHECK.tells("22: none", x, 0, y -> y.ways(0, 19, 1));
-        CHECK.tells("22: v may be any number", x, 0, y -> y.ways(0, -1, 1));
-        CHECK.tells("22: a great one, too", x, 0, y -> y.ways(0, 10000, 1));
+        CHECK.tells("22: the greatest v", x, 0, y -> y.ways(0, 9999, 1));
+        CHECK.finds("22: ways(0, -1, 0)", x, Check.BEYOND, y -> y.ways(0, -1, 0));
+        CHECK.finds("22: ways(0, -1, 6)", x, Check.BEYOND, y -> y.ways(0, -1, 6));
+        CHECK.finds("22: ways(0, 10000, 0)", x, Check.BEYOND, y -> y.ways(0, 10000, 0));
+        CHECK.finds("22: the least int", x, Check.BEYOND, y -> y.ways(0, Integer.MIN_VALUE, 1));
+        CHECK.finds("22: the greatest int", x, Check.BEYOND, y -> y.ways(0, Integer.MAX_VALUE, 1));
         CHECK.finds("22: ways(0, 0, 7)", x, Check.BEYOND, y -> y.ways(0, 0, 7));
         CHECK.finds("22: ways(0, 0, -1)", x, Check.BEYOND, y -> y.ways(0, 0, -1));
         CHECK.finds("22: ways(1, 0, 0)", x, Check.BEYOND, y -> y.ways(1, 0, 0));
         CHECK.tells("22: with 40 layers", ofForty(), 4096, y -> y.ways(0, 1080, 6));
         orderCounts();
+        longestThatMayBeAsked();
+    }
+
+    /** A PASCHAL of 40 layers, of 1 gram of tallow and 1833 of wax: 9168 minutes as a CANDLE. */
+    private static FortyDips ofTenThousand() {
+        FortyDips x = Check.with(5);
+        x.vat(0, 1, 0);
+        x.vat(0, 2, 1);
+        x.vat(3, 1, 0);
+        x.dip(0, 0);
+        for (int i = 1; i < 40; i++) {
+            x.dip(0, 3);
+        }
+        x.turn(0, 4);
+        return x;
+    }
+
+    private static void longestThatMayBeAsked() {
+        FortyDips x = ofTenThousand();
+        CHECK.tells("22: it burns longer than v may be", x, 10114, y -> y.of(0, 4));
+        CHECK.finds("22: ways(0, 10114, 0)", x, Check.BEYOND, y -> y.ways(0, 10114, 0));
+        x.burn(0, 105);
+        CHECK.tells("22: it burns as long as v may be", x, 9999, y -> y.of(0, 4));
+        CHECK.tells("22: ways(0, 9999, 0)", x, 1, y -> y.ways(0, 9999, 0));
+        CHECK.tells("22: ways(0, 9999, 6)", x, 4096, y -> y.ways(0, 9999, 6));
     }
 
     private static void orderCounts() {
