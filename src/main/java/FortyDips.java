@@ -670,8 +670,7 @@ public final class FortyDips {
         return warmth < 80 ? 4 : -5;
     }
 
-    private static int altarGain(int warmth) {
-        int plain = plainGain(warmth);
+    private static int altarGain(int plain) {
         return plain > 1 ? plain - 1 : plain;
     }
 
@@ -856,19 +855,20 @@ public final class FortyDips {
         }
 
         int gain(int warmth) {
+            int plain = plainGain(warmth);
             switch (kind) {
                 case STAR:
-                    return 3 * plainGain(warmth);
+                    return 3 * plain;
                 case ALTAR:
-                    return altarGain(warmth);
+                    return altarGain(plain);
                 case RUSH:
-                    return size == 0 ? plainGain(warmth) : plainGain(warmth) / 2;
+                    return size == 0 ? plain : plain / 2;
                 case PASCHAL:
-                    return moreIfAny(altarGain(warmth), 5);
+                    return moreIfAny(altarGain(plain), 5);
                 case TRIPLE:
-                    return moreIfAny(3 * plainGain(warmth), size);
+                    return moreIfAny(3 * plain, size);
                 default:
-                    return plainGain(warmth);
+                    return plain;
             }
         }
 
@@ -1321,7 +1321,7 @@ public final class FortyDips {
         }
 
         private int byteAt(int place) {
-            return within(place, 0, MOST_BYTES - 1) ? tape.bytes[place] : -1;
+            return place >= 0 && place < MOST_BYTES ? tape.bytes[place] : -1;
         }
 
         private static boolean isLetter(int b) {

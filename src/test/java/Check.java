@@ -69,11 +69,13 @@ final class Check {
         for (int what = 0; what < 4; what++) {
             all.add((long) x.count(what));
         }
-        for (int c = 0; c < x.count(0); c++) {
+        int candles = x.count(0);
+        for (int c = 0; c < candles; c++) {
             for (int what = 0; what < 5; what++) {
                 all.add((long) x.of(c, what));
             }
-            for (int i = 0; i < x.of(c, 1); i++) {
+            int layers = x.of(c, 1);
+            for (int i = 0; i < layers; i++) {
                 all.add((long) x.layer(c, i));
             }
         }
