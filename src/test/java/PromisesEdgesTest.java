@@ -87,6 +87,12 @@ public final class PromisesEdgesTest {
         e.run("vat(2, 2, 99999) = 2000", "vat(2, 2, 0) = 99999", "vat(2, 2, 1) = 0", "vatOf(2, 2) = 1",
                 "vatOf(1, 2) = 2000");
         e.run("vat(3, 3, 1) = 0", "vat(3, 3, 1) = 1", "count(3) = 8", "vat(3, 3, 0) = 1", "count(3) = 0");
+        e.run("vat(1, 0, 1)", "vatOf(1, 1) = 50", "vatOf(1, 2) = 2000", "vatOf(1, 3) = 0", "vat(1, 1, 1)",
+                "vatOf(1, 0) = 1", "vatOf(1, 2) = 2000", "vatOf(1, 3) = 0", "vat(1, 2, 1)", "vatOf(1, 0) = 1",
+                "vatOf(1, 1) = 1", "vatOf(1, 3) = 0", "vat(1, 3, 1)", "vatOf(1, 0) = 1", "vatOf(1, 1) = 1",
+                "vatOf(1, 2) = 1");
+        e.run("vat(3, 3, 1)", "vat(3, 2, 0)", "vat(3, 1, 0)", "vatOf(3, 0) = 1", "vatOf(3, 3) = 1", "vat(3, 0, 0)",
+                "vatOf(3, 1) = 0", "vatOf(3, 2) = 0", "vatOf(3, 3) = 1");
         e.says("BEYOND.");
         beyond(new String[0], "vat(?, 1, 1)", -1, 4, "MIN", "MAX");
         beyond(new String[0], "vat(0, ?, 1)", -1, 4, "MIN", "MAX");

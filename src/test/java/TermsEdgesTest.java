@@ -452,6 +452,8 @@ public final class TermsEdgesTest {
         text("vat 2 holds 1 warm 1", "-15");
         e.says("perhaps holds and a NUMBER (0 to 99999),");
         text("vat 2 holds 0", "1", "vatOf(2, 2) = 0");
+        text("vat 2 holds 1", "1", "vatOf(2, 0) = 0", "vatOf(2, 1) = 50", "vatOf(2, 2) = 1", "vatOf(2, 3) = 0");
+        textOn(new String[] {"vat(2, 3, 1)"}, "vat 2 warm 0 holds 0", "1", "vatOf(2, 3) = 1");
         text("vat 2 holds 99999", "1", "vatOf(2, 2) = 99999");
         text("vat 2 holds 100000", "-13");
         text("vat 2 holds", "-12");
