@@ -6,6 +6,7 @@ import java.util.Random;
 
 /** All promises: long runs of calls, with the same seeds each time, answered by the program and by the Model. */
 public final class RandomTest {
+    private static final int FROM = Integer.getInteger("from", 0);
     private static final int RUNS = Integer.getInteger("runs", 300);
     private static final int CALLS = 512;
     private static final String[] WORDS = {
@@ -35,7 +36,7 @@ public final class RandomTest {
             }
         }
         methods.sort((a, b) -> a.getName().compareTo(b.getName()));
-        for (int seed = 0; seed < RUNS; seed++) {
+        for (int seed = FROM; seed < FROM + RUNS; seed++) {
             if (!new RandomTest(seed, methods).agrees()) {
                 System.exit(1);
             }
